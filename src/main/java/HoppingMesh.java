@@ -859,6 +859,31 @@ public final class HoppingMesh {
             return size() < ROOM;
         }
 
+        int cellsAlsoIn(Side other) {
+            int found = 0;
+            int size = words[at + CELLS];
+            for (int i = 0; i < size; i++) {
+                if (other.placeOf(words[at + NUMBERS + i]) != NONE) {
+                    found++;
+                }
+            }
+            return found;
+        }
+
+        /** Both TABLES rise, so they are compared place by place. */
+        boolean hasSameCells(Side other) {
+            int size = words[at + CELLS];
+            if (size != other.words[other.at + CELLS]) {
+                return false;
+            }
+            for (int i = 0; i < size; i++) {
+                if (words[at + NUMBERS + i] != other.words[other.at + NUMBERS + i]) {
+                    return false;
+                }
+            }
+            return true;
+        }
+
         /** A CELL without room, or one that is there, does not come. */
         void put(int cell) {
             int size = size();
@@ -1130,29 +1155,8 @@ public final class HoppingMesh {
             return !sender.isWaiting() && !mail.isUnderWay();
         }
 
-        int cellsOfBoth() {
-            int found = 0;
-            int size = sender.size();
-            for (int i = 0; i < size; i++) {
-                if (receiver.placeOf(sender.numberAt(i)) != NONE) {
-                    found++;
-                }
-            }
-            return found;
-        }
-
-        /** Both TABLES rise, so they are compared place by place. */
         boolean agrees() {
-            int size = sender.size();
-            if (sender.seq() != receiver.seq() || size != receiver.size()) {
-                return false;
-            }
-            for (int i = 0; i < size; i++) {
-                if (sender.numberAt(i) != receiver.numberAt(i)) {
-                    return false;
-                }
-            }
-            return true;
+            return sender.seq() == receiver.seq() && sender.hasSameCells(receiver);
         }
     }
 
@@ -1274,7 +1278,7 @@ public final class HoppingMesh {
         int cellsOfBoth() {
             int found = 0;
             for (int p = 0; p < plan.pairs(); p++) {
-                found += links[p].cellsOfBoth();
+                found += links[p].sender.cellsAlsoIn(links[p].receiver);
             }
             return found;
         }
@@ -1409,8 +1413,8 @@ public final class HoppingMesh {
 
         /** Takes the LETTER in hand, as its answer is written in its stead. */
         int open(Link link) {
-            toldCount = link.mail.cells();
-            for (int i = 0; i < toldCount && i < Letter.ROOM; i++) {
+            toldCount = Math.min(link.mail.cells(), Letter.ROOM);
+            for (int i = 0; i < toldCount; i++) {
                 told[i] = link.mail.numberAt(i);
             }
             link.mail.drop();
@@ -1666,20 +1670,27 @@ public final class HoppingMesh {
 
         /** First all line up: who sends in which CELL must be known before anything is GOT. */
         private void sendAll() {
-            Arrays.fill(sendersIn, 0);
-            for (int p = 0; p < plan.pairs(); p++) {
+            int pairs = plan.pairs();
+            for (int p = 0; p < pairs; p++) {
                 Link link = net.links[p];
                 link.growQueue();
                 sends[p] = Math.min(link.queue(), link.sender.size());
-                for (int i = 0; i < sends[p]; i++) {
-                    int cell = link.sender.numberAt(i);
-                    if (cell >= 0 && cell < NUMBERS) {
-                        sendersIn[cell]++;
-                    }
-                }
+                markCells(link.sender, sends[p], 1);
             }
-            for (int p = 0; p < plan.pairs(); p++) {
+            for (int p = 0; p < pairs; p++) {
                 came[p] = sendOf(net.links[p], sends[p]);
+            }
+            for (int p = 0; p < pairs; p++) {
+                markCells(net.links[p].sender, sends[p], -1);
+            }
+        }
+
+        private void markCells(Side side, int sends, int more) {
+            for (int i = 0; i < sends; i++) {
+                int cell = side.numberAt(i);
+                if (cell >= 0 && cell < NUMBERS) {
+                    sendersIn[cell] += more;
+                }
             }
         }
 
