@@ -551,61 +551,41 @@ public final class HoppingMesh {
             if (sign == 's' && !rulesTold) {
                 rulesTold = true;
                 at++;
-                return readRules();
+                return readItems(RULE_LETTERS, RULE_LEAST, RULE_MOST, rules, 0);
             }
             if (sign == 'p' && pairs < MOST_PAIRS) {
+                int first = pairs * Plan.ITEMS;
+                System.arraycopy(PAIR_USUAL, 0, items, first, Plan.ITEMS);
                 pairs++;
                 at++;
-                return readPair();
+                return readItems(PAIR_LETTERS, PAIR_LEAST, PAIR_MOST, items, first);
             }
             return at;
         }
 
-        private int readRules() {
+        /** Letters stay where they are until known to be new: a second one is itself the FAULT. */
+        private int readItems(String letters, int[] least, int[] most, int[] into, int first) {
             int seen = 0;
-            for (int i = 0; i <= Plan.RULES; i++) {
-                int which = readLetter(RULE_LETTERS);
-                if (which == NONE || (seen >> which & 1) == 1) {
-                    return isAtClauseEnd() ? NONE : at;
+            for (int i = 0; i <= letters.length(); i++) {
+                skipBlanks();
+                int sign = tape.signAt(at);
+                if (sign == NONE || sign == ';') {
+                    return NONE;
+                }
+                int which = letters.indexOf((char) sign);
+                if (which < 0 || which >= least.length || which >= most.length || (seen >> which & 1) == 1) {
+                    return at;
                 }
                 seen |= 1 << which;
-                int wrong = readNumber(RULE_LEAST[which], RULE_MOST[which]);
+                int wrong = readNumber(least[which], most[which]);
                 if (wrong != NONE) {
                     return wrong;
                 }
-                rules[which] = number;
+                if (first + which < into.length) {
+                    into[first + which] = number;
+                }
             }
             return at;
-        }
-
-        private int readPair() {
-            int first = (pairs - 1) * Plan.ITEMS;
-            System.arraycopy(PAIR_USUAL, 0, items, first, Plan.ITEMS);
-            int seen = 0;
-            for (int i = 0; i <= Plan.ITEMS; i++) {
-                int which = readLetter(PAIR_LETTERS);
-                if (which == NONE || (seen >> which & 1) == 1) {
-                    return isAtClauseEnd() ? NONE : at;
-                }
-                seen |= 1 << which;
-                int wrong = readNumber(PAIR_LEAST[which], PAIR_MOST[which]);
-                if (wrong != NONE) {
-                    return wrong;
-                }
-                items[first + which] = number;
-            }
-            return at;
-        }
-
-        /** Stays at the letter, as that is the FAULT if it was there before. */
-        private int readLetter(String letters) {
-            skipBlanks();
-            int sign = tape.signAt(at);
-            return sign > 0 ? letters.indexOf((char) sign) : NONE;
-        }
-
-        private boolean isAtClauseEnd() {
-            return at >= tape.size() || tape.signAt(at) == ';';
         }
 
         /** A third digit is the FAULT before the bounds are looked at. */

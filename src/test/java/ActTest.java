@@ -9,7 +9,9 @@ public final class ActTest {
         deal();
         dealThatCannotBegin();
         moveBehindTheLastSlot();
+        slotsOfTwoDigits();
         answersOfNo();
+        threeStepsWithoutOffers();
         promisesOfBothWays();
         lostRequest();
         lostAnswerIsHealed();
@@ -22,7 +24,9 @@ public final class ActTest {
         load();
         auto();
         autoFollowsLoad();
+        autoAtTheBounds();
         autoMovesBadCells();
+        countsMoveWithTheirCells();
         collisions();
         countsEnd();
         years();
@@ -73,12 +77,18 @@ public final class ActTest {
         CHECK.due("one too many", NONE, mesh.years(40, 1));
         status(mesh, 0, 0, 0, 0, 1);
         CHECK.due("FRAME", 9960, mesh.count(3));
-        CHECK.due("years(30)", 9990, mesh.years(30, 1));
+        CHECK.due("years(39)", 9999, mesh.years(39, 1));
+        CHECK.due("undo", 39, mesh.undo());
+        CHECK.due("years(1)", 9999, mesh.years(1, 1));
+        for (int i = 0; i < 9; i++) {
+            mesh.undo();
+        }
+        CHECK.due("frames(10)", NONE, mesh.frames(10));
         CHECK.due("frames(9)", 9999, mesh.frames(9));
         CHECK.due("none goes by then", NONE, mesh.frames(1));
         CHECK.due("none goes by then", NONE, mesh.years(1, 1));
         CHECK.due("out of bounds is first", NONE, mesh.frames(0));
-        status(mesh, 0, 1, 0, 0, 2);
+        status(mesh, 0, 1, 0, 0, 3);
         mesh.load(0, 1);
         CHECK.due("apart FRAMES go on", 60, mesh.comes(0, 60, 1));
     }
@@ -167,6 +177,57 @@ public final class ActTest {
         CHECK.due("two OFFERS", 3, mesh.deal(0, 2, 1));
         CHECK.due("behind that SLOT", 20, mesh.letter(0, 7));
         CHECK.due("behind that SLOT", 31, mesh.letter(0, 8));
+    }
+
+    private static void slotsOfTwoDigits() {
+        HoppingMesh mesh = Check.mesh("sw16c4u0;pa0b1;pa0b2;pa0b3;pa3b1");
+        for (int p = 0; p < 3; p++) {
+            for (int i = 0; i < 2; i++) {
+                CHECK.due("ADD 3", 4, mesh.deal(p, 0, 3));
+                mesh.frames(2);
+                if (p == 2) {
+                    break;
+                }
+            }
+        }
+        table("PAIR 0", mesh, 0, 0, 0, 11, 22, 33, 40, 51);
+        table("PAIR 1", mesh, 1, 0, 63, 70, 81, 92, 103, 110);
+        table("PAIR 2", mesh, 2, 1, 122, 133, 140);
+        CHECK.due("one is FREE", 1 << 15, mesh.node(0, 0) ^ 65535);
+        CHECK.due("TAKEN", 7 << 12, mesh.node(3, 0));
+        mesh.deal(2, 2, 0);
+        CHECK.due("the last SLOT", 151, mesh.letter(2, 7));
+        CHECK.due("alone", 2, mesh.letter(2, 5));
+        mesh.frames(2);
+        table("PAIR 2", mesh, 2, 1, 133, 140, 151);
+        mesh.deal(3, 0, 3);
+        CHECK.due("none of its own", 3, mesh.letter(3, 6));
+        mesh.frames(1);
+        CHECK.due("FREE at NODE 1 are 6 and more", 1, mesh.letter(3, 2));
+        mesh.frames(1);
+        CHECK.due("LOG", 15, mesh.log(0, 1));
+        CHECK.due("GOT in SLOT 12 and behind", 3, mesh.comes(2, 3, 0));
+    }
+
+    private static void threeStepsWithoutOffers() {
+        HoppingMesh mesh = Check.mesh("sw4u0;pa0b1;pa2b1k3");
+        mesh.deal(0, 0, 3);
+        mesh.frames(2);
+        mesh.deal(1, 0, 3);
+        mesh.frames(1);
+        CHECK.due("one OFFER", 0, mesh.letter(1, 2));
+        CHECK.due("one OFFER", 1, mesh.letter(1, 5));
+        CHECK.due("RECEIVER WAITS", 1, mesh.waits(1, 1, 0));
+        mesh.frames(2);
+        CHECK.due("SEQ", 1, mesh.pair(1, 8));
+        mesh.deal(1, 0, 1);
+        mesh.frames(1);
+        CHECK.due("no OFFER: NO", 1, mesh.letter(1, 2));
+        CHECK.due("no OFFER: an answer", 1, mesh.letter(1, 0));
+        CHECK.due("RECEIVER does not WAIT", 0, mesh.waits(1, 1, 0));
+        mesh.frames(1);
+        CHECK.due("nothing", 0, mesh.most(3) + mesh.most(1));
+        CHECK.due("SEQ", 1, mesh.pair(1, 7));
     }
 
     private static void answersOfNo() {
@@ -453,6 +514,78 @@ public final class ActTest {
         CHECK.due("QUEUE", 99 - 6, mesh.pair(0, 4));
     }
 
+    private static void autoAtTheBounds() {
+        HoppingMesh mesh = Check.mesh("sm4u0;pl0");
+        mesh.deal(0, 0, 2);
+        mesh.frames(4);
+        mesh.auto();
+        mesh.load(0, 3);
+        mesh.frames(1);
+        mesh.load(0, 2);
+        mesh.frames(1);
+        mesh.load(0, 1);
+        mesh.frames(1);
+        mesh.load(0, 0);
+        CHECK.due("USED", 6, mesh.pair(0, 5));
+        mesh.frames(1);
+        CHECK.due("4 times 6 is not above 3 times 8", 0, mesh.most(3));
+        mesh.load(0, 1);
+        mesh.frames(2);
+        mesh.load(0, 0);
+        mesh.frames(2);
+        CHECK.due("4 times 2 is not below 8", 0, mesh.most(3));
+        mesh.load(0, 1);
+        mesh.frames(1);
+        mesh.load(0, 0);
+        mesh.frames(3);
+        CHECK.due("4 times 1 is below 8: DELETE", 1, mesh.letter(0, 1));
+        mesh.frames(4);
+        CHECK.due("one CELL is not taken", 0, mesh.most(3));
+        HoppingMesh none = Check.mesh("sm2;pl0");
+        none.frames(4);
+        CHECK.due("no CELL, no QUEUE", 0, none.most(3));
+        none.load(0, 1);
+        none.frames(1);
+        none.load(0, 0);
+        none.frames(1);
+        CHECK.due("no CELL, one QUEUES: ADD", 0, none.letter(0, 1));
+        HoppingMesh full = Check.mesh("sw4m2;pl9");
+        full.frames(40);
+        CHECK.due("no OFFERS: left", 4, full.pair(0, 9));
+        CHECK.due("no OFFERS: left", 0, full.most(3));
+        CHECK.due("USED", 0, full.pair(0, 5));
+    }
+
+    /** SENT and GOT go with their CELLS when others come or are taken out between. */
+    private static void countsMoveWithTheirCells() {
+        HoppingMesh mesh = Check.mesh("sw6c1u0;pl2");
+        Check.tell(mesh, "012345", 1);
+        mesh.deal(0, 0, 3);
+        mesh.frames(3);
+        mesh.jam(1);
+        mesh.load(0, 3);
+        mesh.frames(2);
+        counts(mesh, 0, 4, 4, 10, 4, 2, 20, 4, 4);
+        CHECK.due("half is not less", NONE, mesh.most(9));
+        mesh.deal(0, 2, 0);
+        mesh.frames(2);
+        counts(mesh, 10, 6, 2, 20, 6, 6, 30, 1, 1);
+        CHECK.due("BAD", 10, mesh.most(9));
+        mesh.deal(0, 2, 2);
+        mesh.load(0, 0);
+        mesh.frames(2);
+        counts(mesh, 10, 8, 2, 20, 8, 8, 40, 1, 1);
+        mesh.deal(0, 0, 1);
+        mesh.frames(2);
+        counts(mesh, 0, 1, 1, 10, 9, 2, 20, 9, 9, 40, 1, 1);
+    }
+
+    private static void counts(HoppingMesh mesh, int... due) {
+        for (int i = 0; i < due.length; i++) {
+            CHECK.due("cell(0, 0, " + i / 3 + ", " + i % 3 + ")", due[i], mesh.cell(0, 0, i / 3, i % 3));
+        }
+    }
+
     /** PAIR 1 sends in CELL 0 all the time, so CELL 0 of PAIR 0 never comes over. */
     private static void autoMovesBadCells() {
         HoppingMesh mesh = Check.mesh("sc1u0;pl2;pa2b3l1");
@@ -507,15 +640,22 @@ public final class ActTest {
 
     private static void countsEnd() {
         HoppingMesh mesh = Check.mesh("su0;p");
-        mesh.deal(0, 0, 1);
-        for (int i = 0; i < 26; i++) {
+        mesh.deal(0, 0, 2);
+        mesh.load(0, 2);
+        for (int i = 0; i < 24; i++) {
             mesh.frames(40);
         }
-        CHECK.due("SENT", 999, mesh.cell(0, 0, 0, 1));
-        CHECK.due("GOT", 999, mesh.cell(0, 0, 0, 2));
-        CHECK.due("still GOT", 1, mesh.log(0, 2));
-        CHECK.due("still GOT", 7, mesh.comes(0, 7, 0));
-        CHECK.due("QUEUE", 1, mesh.pair(0, 4));
+        mesh.frames(39);
+        CHECK.due("SENT", 998, mesh.cell(0, 0, 1, 1));
+        CHECK.due("GOT", 998, mesh.cell(0, 0, 1, 2));
+        mesh.frames(3);
+        for (int i = 0; i < 2; i++) {
+            CHECK.due("SENT", 999, mesh.cell(0, 0, i, 1));
+            CHECK.due("GOT", 999, mesh.cell(0, 0, i, 2));
+        }
+        CHECK.due("still GOT", 2, mesh.log(0, 2));
+        CHECK.due("still GOT", 14, mesh.comes(0, 7, 0));
+        CHECK.due("QUEUE", 2, mesh.pair(0, 4));
         HoppingMesh full = Check.mesh("su0;pl9");
         full.frames(11);
         CHECK.due("QUEUE", 99, full.pair(0, 4));

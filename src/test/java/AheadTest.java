@@ -162,7 +162,11 @@ public final class AheadTest {
         CHECK.due("six", 6, mesh.pair(0, 9));
         HoppingMesh slow = Check.mesh("sm9;pl9");
         CHECK.due("six by FRAME 55: not within 40", NONE, slow.steady());
-        slow.frames(20);
+        slow.frames(15);
+        CHECK.due("in 41", NONE, slow.steady());
+        slow.frames(1);
+        CHECK.due("in 40", 40, slow.steady());
+        slow.frames(4);
         CHECK.due("six CELLS in FRAME 55", 36, slow.steady());
     }
 
@@ -250,8 +254,18 @@ public final class AheadTest {
         CHECK.due("no MESH", NONE, mesh.shares(0, 0));
         Check.tell(mesh, "su0;pl3;pa2b3l1;pa4b5l0", 0);
         CHECK.due("none GOT", 0, mesh.shares(0, 999));
-        mesh.deal(0, 0, 3);
         mesh.deal(1, 0, 2);
+        mesh.load(1, 0);
+        mesh.frames(1);
+        mesh.load(1, 1);
+        mesh.frames(1);
+        CHECK.due("one GOT", 999, mesh.shares(1, 999));
+        CHECK.due("one GOT", 0, mesh.shares(0, 999));
+        mesh.undo();
+        mesh.undo();
+        mesh.undo();
+        mesh.undo();
+        mesh.deal(0, 0, 3);
         mesh.frames(3);
         CHECK.due("GOT", 6, mesh.cell(0, 0, 0, 2) + mesh.cell(0, 0, 1, 2) + mesh.cell(0, 0, 2, 2));
         CHECK.due("GOT", 3, mesh.cell(1, 0, 0, 2) + mesh.cell(1, 0, 1, 2));

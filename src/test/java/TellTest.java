@@ -222,6 +222,10 @@ public final class TellTest {
         CHECK.due("SLOT out of bounds", NONE, mesh.channel(0, 50));
         CHECK.due("no such CELL", NONE, mesh.channel(0, -1));
         CHECK.due("no such CELL", NONE, mesh.channel(0, -10));
+        Check.tell(mesh, "sw16c1;p", 0);
+        CHECK.due("one OFFSET", 0, mesh.channel(7, 150));
+        CHECK.due("one OFFSET", NONE, mesh.channel(7, 151));
+        CHECK.due("SLOT out of bounds", NONE, mesh.channel(7, 160));
     }
 
     private static void channelWithHops() {
@@ -234,6 +238,11 @@ public final class TellTest {
         CHECK.due("channel(0, 41)", 7, mesh.channel(0, 41));
         CHECK.due("channel(3, 20)", 7, mesh.channel(3, 20));
         CHECK.due("channel(9999, 11)", 7, mesh.channel(9999, 11));
+        Check.tell(mesh, "sw16c4;p", 0);
+        CHECK.due("channel(0, 153)", 3, mesh.channel(0, 153));
+        CHECK.due("channel(0, 150)", 9, mesh.channel(0, 150));
+        Check.tell(mesh, "8", 1);
+        CHECK.due("one HOP", 8, mesh.channel(77, 33));
     }
 
     private static void loss() {

@@ -49,6 +49,11 @@ public final class TextTest {
         CHECK.due("refused", 239, mesh.count(2));
         CHECK.due("the last one", 240, mesh.feed(0, 0, 0, 0, 'p'));
         CHECK.due("one too many", NONE, mesh.feed(0, 0, 0, 0, 'p'));
+        for (int i = 0; i < 5; i++) {
+            int[] w = new int[5];
+            w[i] = 0x01000000;
+            CHECK.due("one too many", NONE, mesh.feed(w[0], w[1], w[2], w[3], w[4]));
+        }
         CHECK.due("none more", 240, mesh.feed(0, 0, 0, 0, 0));
         CHECK.due("240 bytes", NONE, mesh.fault(0));
         CHECK.due("text of 240 bytes", 1, mesh.text(0));

@@ -63,6 +63,13 @@ public final class ViewTest {
         CHECK.due("COLLIDE: the SENDERS' alone", 0, mesh.most(0));
         mesh.frames(1);
         CHECK.due("COLLIDE", 6, mesh.most(0));
+        mesh.deal(2, 2, 0);
+        mesh.frames(2);
+        CHECK.due("moved", 10, mesh.cell(2, 0, 0, 0));
+        CHECK.due("COLLIDE not any more", 0, mesh.most(0));
+        mesh.undo();
+        mesh.undo();
+        mesh.undo();
         CHECK.due("WAITING SENDERS", 0, mesh.most(1));
         CHECK.due("WAITING RECEIVERS", 2, mesh.most(2));
         CHECK.due("UNDER WAY", 2, mesh.most(3));
