@@ -207,6 +207,14 @@ public final class ActTest {
         mesh.frames(1);
         CHECK.due("LOG", 15, mesh.log(0, 1));
         CHECK.due("GOT in SLOT 12 and behind", 3, mesh.comes(2, 3, 0));
+        mesh.deal(2, 2, 1);
+        mesh.deal(0, 1, 3);
+        mesh.frames(2);
+        table("PAIR 2", mesh, 2, 0, 122, 133, 151);
+        CHECK.due("FREE", 7 << 3 | 1 << 14, mesh.node(0, 0) ^ 65535);
+        mesh.deal(2, 2, 2);
+        CHECK.due("behind the last SLOT from 0 on", 31, mesh.letter(2, 7));
+        CHECK.due("behind the last SLOT from 0 on", 42, mesh.letter(2, 8));
     }
 
     private static void threeStepsWithoutOffers() {

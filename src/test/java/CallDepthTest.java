@@ -1,0 +1,70 @@
+import java.io.PrintWriter;
+import java.io.StringWriter;
+import java.nio.file.Path;
+import java.util.HashMap;
+import java.util.Map;
+import java.util.TreeSet;
+import java.util.regex.Matcher;
+import java.util.regex.Pattern;
+import java.util.spi.ToolProvider;
+
+/** LANGUAGE.md, rules 8 and 11: no call of the face goes more than eight deep, and none comes back to itself. */
+public final class CallDepthTest {
+    private static final Check CHECK = new Check();
+    private static final int DEEPEST = 8;
+    private static final Pattern METHOD = Pattern.compile("^  \\S.*?([\\w$.]+)\\(.*\\).*;$");
+    private static final Pattern CALL = Pattern.compile("// (?:Interface)?Method (\\S+):");
+
+    private final Map<String, TreeSet<String>> calls = new HashMap<>();
+
+    public static void main(String[] args) throws Exception {
+        CallDepthTest test = new CallDepthTest();
+        Path classes = Path.of(HoppingMesh.class.getProtectionDomain().getCodeSource().getLocation().toURI());
+        test.read("HoppingMesh", classes);
+        for (Class<?> c : HoppingMesh.class.getDeclaredClasses()) {
+            test.read(c.getName(), classes);
+        }
+        CHECK.due("methods are found", true, test.calls.size() > 100);
+        int deepest = 0;
+        for (String method : test.calls.keySet()) {
+            int depth = test.depth(method, 1);
+            deepest = Math.max(deepest, depth);
+            CHECK.due(method + " goes " + depth + " deep", true, depth <= DEEPEST);
+        }
+        CHECK.due("calls are found", true, deepest > 4);
+        CHECK.end("CallDepthTest");
+    }
+
+    private void read(String name, Path classes) {
+        StringWriter text = new StringWriter();
+        PrintWriter out = new PrintWriter(text);
+        ToolProvider javap = ToolProvider.findFirst("javap").orElseThrow();
+        CHECK.due("javap of " + name, 0, javap.run(out, out, "-c", "-p", classes.resolve(name + ".class").toString()));
+        String method = "";
+        for (String line : text.toString().split("\\R")) {
+            Matcher declared = METHOD.matcher(line);
+            Matcher called = CALL.matcher(line);
+            if (declared.find()) {
+                String last = declared.group(1);
+                method = name + "." + (last.equals(name) ? "<init>" : last);
+                calls.put(method, new TreeSet<>());
+            } else if (called.find() && calls.containsKey(method)) {
+                String target = called.group(1).replace("\"", "").replace('/', '.');
+                calls.get(method).add(target.contains(".") ? target : name + "." + target);
+            }
+        }
+    }
+
+    private int depth(String method, int open) {
+        if (open > 20) {
+            return open;
+        }
+        int most = 1;
+        for (String target : calls.get(method)) {
+            if (calls.containsKey(target)) {
+                most = Math.max(most, 1 + depth(target, open + 1));
+            }
+        }
+        return most;
+    }
+}
