@@ -183,9 +183,12 @@ public final class Bounds01To05Test {
         CHECK.due("239 and 2", NONE, nearlyFull(1).feed(0x20, 0, 0, 0, 0x20000000));
         CHECK.due("240 and none", 240, nearlyFull(0).feed(0, 0, 0, 0, 0));
         for (int i = 0; i < 20; i++) {
-            int[] words = new int[5];
-            words[i / 4] = 255 << 8 * (i % 4);
-            CHECK.due("240 and one", NONE, nearlyFull(0).feed(words[0], words[1], words[2], words[3], words[4]));
+            for (int sign : new int[] {1, 128, 255}) {
+                int[] words = new int[5];
+                words[i / 4] = sign << 8 * (i % 4);
+                CHECK.due("240 and one", NONE, nearlyFull(0).feed(words[0], words[1], words[2], words[3], words[4]));
+                CHECK.due("239 and one", 240, nearlyFull(1).feed(words[0], words[1], words[2], words[3], words[4]));
+            }
         }
         HoppingMesh mesh = nearlyFull(1);
         mesh.feed(0, 'p', 0, 0, 0);

@@ -22,7 +22,9 @@ public final class Bounds06To12Test {
         p8Rising();
         p8NoSuchOnes();
         p8SentAndGotAtFirst();
+        p8SentAndGotStay();
         p8SentAndGotAtMost();
+        p8SentAndGotOfSixAtMost();
         p9NobodyWaits();
         p9Promised();
         p9FromWhichFrame();
@@ -409,6 +411,64 @@ public final class Bounds06To12Test {
         mesh.frames(2);
         CHECK.due("deleted and added: SENT", 0, mesh.cell(0, 0, 0, 1));
         CHECK.due("deleted and added: GOT", 0, mesh.cell(0, 0, 0, 2));
+    }
+
+    private static void counts(HoppingMesh mesh, int... due) {
+        for (int i = 0; i < due.length; i++) {
+            CHECK.due("cell(0, 0, " + i / 3 + ", " + i % 3 + ")", due[i], mesh.cell(0, 0, i / 3, i % 3));
+        }
+    }
+
+    /** By these HOPS the CHANNEL of a CELL is its SLOT; each CELL has counts of its own. */
+    private static void p8SentAndGotStay() {
+        CHECK.promise(8, "SENT and GOT of a CELL, as others come and go");
+        HoppingMesh mesh = Check.mesh("sw6c1u0;pl0", "012345");
+        mesh.deal(0, 0, 3);
+        mesh.frames(2);
+        mesh.jam(1);
+        for (int load : new int[] {3, 1, 2, 0}) {
+            mesh.load(0, load);
+            mesh.frames(1);
+        }
+        counts(mesh, 0, 4, 4, 10, 3, 0, 20, 2, 2);
+        CHECK.due("QUEUE", 0, mesh.pair(0, 4));
+        mesh.deal(0, 2, 0);
+        mesh.frames(2);
+        counts(mesh, 10, 3, 0, 20, 2, 2, 30, 0, 0);
+        mesh.deal(0, 2, 2);
+        mesh.frames(2);
+        mesh.deal(0, 0, 1);
+        mesh.frames(2);
+        counts(mesh, 0, 0, 0, 10, 3, 0, 20, 2, 2, 40, 0, 0);
+        mesh.deal(0, 2, 2);
+        mesh.frames(2);
+        counts(mesh, 0, 0, 0, 10, 3, 0, 30, 0, 0, 40, 0, 0);
+        mesh.deal(0, 1, 2);
+        mesh.frames(2);
+        counts(mesh, 0, 0, 0, 10, 3, 0);
+        mesh.deal(0, 0, 2);
+        mesh.frames(2);
+        counts(mesh, 0, 0, 0, 10, 3, 0, 20, 0, 0, 30, 0, 0);
+    }
+
+    private static void p8SentAndGotOfSixAtMost() {
+        CHECK.promise(8, "SENT and GOT of each of 6 CELLS: 999 at most");
+        HoppingMesh mesh = Check.mesh("su0;pl9");
+        mesh.deal(0, 0, 3);
+        mesh.frames(2);
+        mesh.deal(0, 0, 3);
+        for (int i = 0; i < 24; i++) {
+            mesh.frames(40);
+        }
+        mesh.frames(37);
+        int[][] due = {{998, 996}, {999, 997}, {999, 998}, {999, 999}, {999, 999}};
+        for (int[] row : due) {
+            for (int i = 0; i < 6; i++) {
+                CHECK.due("SENT of place " + i, row[i < 3 ? 0 : 1], mesh.cell(0, 0, i, 1));
+                CHECK.due("GOT of place " + i, row[i < 3 ? 0 : 1], mesh.cell(0, 0, i, 2));
+            }
+            mesh.frames(1);
+        }
     }
 
     private static void p8SentAndGotAtMost() {

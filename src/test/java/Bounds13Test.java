@@ -36,6 +36,8 @@ public final class Bounds13Test {
         leftAsOneIsOpen();
         fullTableAsksAndGetsNo();
         pairsRisingAsTheyBegin();
+        lastSlot();
+        sixPairs();
         CHECK.end("Bounds13Test", 13, 13);
     }
 
@@ -331,6 +333,18 @@ public final class Bounds13Test {
         CHECK.due("LOG", 1, mesh.log(0, 2));
         mesh.frames(1);
         counts(mesh, 0, 3, 3);
+        HoppingMesh odd = Check.mesh("sw4c1u0;pl0");
+        odd.deal(0, 0, 2);
+        odd.frames(2);
+        odd.deal(0, 2, 0);
+        odd.frames(1);
+        odd.lose(0);
+        CHECK.table(odd, 0, 0, 0, 10);
+        CHECK.table(odd, 0, 1, 10, 20);
+        odd.load(0, 2);
+        odd.frames(1);
+        counts(odd, 0, 1, 0, 1, 1);
+        CHECK.due("QUEUE", 1, odd.pair(0, 4));
     }
 
     private static void gotIfNoOtherSends() {
@@ -480,6 +494,23 @@ public final class Bounds13Test {
         CHECK.letter(three, 0);
     }
 
+    /** As withCells, but the SENDER has so many CELLS and the RECEIVER so many: an answer was LOST. */
+    private static HoppingMesh atOdds(int senders, int receivers) {
+        HoppingMesh mesh = Check.mesh("sm4u0;pl0");
+        if (senders > 0) {
+            mesh.deal(0, 0, senders);
+            mesh.frames(4);
+        }
+        mesh.deal(0, receivers > senders ? 0 : 1, Math.abs(receivers - senders));
+        mesh.frames(1);
+        mesh.lose(0);
+        mesh.frames(3);
+        mesh.auto();
+        CHECK.due("SENDER's CELLS", senders, mesh.pair(0, 9));
+        CHECK.due("RECEIVER's CELLS", receivers, mesh.pair(0, 10));
+        return mesh;
+    }
+
     private static void addWithoutCells() {
         CHECK.promise(13, "no CELL and QUEUES any: ADD 1");
         HoppingMesh none = withCells(0);
@@ -491,6 +522,12 @@ public final class Bounds13Test {
         HoppingMesh idle = withCells(1);
         window(idle, 0, 0, 0, 0);
         CHECK.letter(idle, 0);
+        HoppingMesh senders = atOdds(0, 1);
+        window(senders, 0, 0, 0, 1);
+        CHECK.letter(senders, 0, 0, 0, NONE, 0, 1, 2, 0, 11);
+        HoppingMesh receivers = atOdds(1, 0);
+        window(receivers, 0, 0, 1, 0);
+        CHECK.letter(receivers, 0);
     }
 
     private static void deleteBelow() {
@@ -510,6 +547,18 @@ public final class Bounds13Test {
         HoppingMesh one = withCells(1);
         window(one, 0, 0, 0, 0);
         CHECK.letter(one, 0);
+        HoppingMesh senders = atOdds(2, 1);
+        window(senders, 0, 0, 0, 0);
+        CHECK.letter(senders, 0, 0, 1, NONE, 1, 1, 1, 11);
+        HoppingMesh receivers = atOdds(1, 2);
+        window(receivers, 0, 0, 0, 0);
+        CHECK.letter(receivers, 0);
+        HoppingMesh five = Check.mesh("sm5u0;pl0");
+        five.deal(0, 0, 2);
+        five.frames(5);
+        five.auto();
+        window(five, 1, 0, 1, 0, 0);
+        CHECK.letter(five, 0, 0, 1, NONE, 1, 1, 1, 11);
     }
 
     /** By these HOPS the CHANNEL of a CELL is its SLOT; one CELL more than are used, so that no ADD is due. */
@@ -658,6 +707,43 @@ public final class Bounds13Test {
         CHECK.due("six", 6, mesh.pair(0, 9));
         CHECK.due("SEQ", seq, mesh.pair(0, 7));
         CHECK.due("SEQ", seq, mesh.pair(0, 8));
+    }
+
+    private static void lastSlot() {
+        CHECK.promise(13, "CELLS of the last SLOT and OFFSET come over");
+        for (int offsets = 1; offsets <= 4; offsets++) {
+            HoppingMesh mesh = Check.mesh("sw16c" + offsets + "u0;pl0");
+            mesh.deal(0, 0, 1);
+            for (int i = 0; i < 15; i++) {
+                mesh.frames(2);
+                mesh.deal(0, 2, 0);
+            }
+            mesh.frames(2);
+            CHECK.tables(mesh, 0, 150 + 15 % offsets);
+            mesh.load(0, 1);
+            mesh.frames(1);
+            counts(mesh, 0, 1, 1);
+        }
+    }
+
+    /** Each has its own QUEUE, LETTERS and CELLS; the last one is dealt with in 3 STEPS. */
+    private static void sixPairs() {
+        CHECK.promise(13, "of six PAIRS each");
+        HoppingMesh mesh = Check.mesh("sw16c1u0;pb1l1;pb2l2;pb3l3;pb4l4;pb5l5;pa1b0k3l6");
+        for (int p = 0; p < 6; p++) {
+            mesh.deal(p, 0, 1);
+            mesh.frames(3);
+        }
+        for (int p = 0; p < 6; p++) {
+            CHECK.due("CELLS of PAIR " + p, 1, mesh.pair(p, 9));
+            CHECK.due("AGREE", 1, mesh.agree(p));
+            CHECK.table(mesh, p, 0, 10 * p);
+            CHECK.due("SENT of PAIR " + p, 17 - 3 * p, mesh.cell(p, 0, 0, 1));
+            CHECK.due("GOT of PAIR " + p, p < 5 ? 17 - 3 * p : 1, mesh.cell(p, 0, 0, 2));
+            CHECK.due("QUEUE of PAIR " + p, p < 5 ? 18 * (p + 1) - (17 - 3 * p) : 98, mesh.pair(p, 4));
+        }
+        CHECK.due("LOG: CELLS", 6, mesh.log(0, 1));
+        CHECK.due("LOG: GOT", 6, mesh.log(0, 2));
     }
 
     private static void pairsRisingAsTheyBegin() {

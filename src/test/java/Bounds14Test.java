@@ -22,6 +22,7 @@ public final class Bounds14Test {
         clear();
         refusedChangesNothing();
         anAct();
+        fromTheSendersTable();
         answerOdd();
         clearWithUnlikeSeq();
         acceptFree();
@@ -30,6 +31,8 @@ public final class Bounds14Test {
         roomOfTheSender();
         freeAtTheSender();
         moveAtTheReceiver();
+        moveOfTheOffersAlone();
+        slotsOfTwoDigits();
         promisedSlotsAreTaken();
         requestToOneThatWaits();
         nextSeq();
@@ -317,6 +320,41 @@ public final class Bounds14Test {
         return mesh;
     }
 
+    private static void fromTheSendersTable() {
+        CHECK.promise(14, "DELETE and MOVE: of its CELLS, the SENDER's");
+        HoppingMesh mesh = Check.mesh("sw4c1u0;p");
+        settle(mesh, 0, ADD, 2);
+        mesh.deal(0, MOVE, 0);
+        mesh.frames(1);
+        mesh.lose(0);
+        mesh.frames(3);
+        CHECK.table(mesh, 0, 0, 0, 10);
+        CHECK.table(mesh, 0, 1, 10, 20);
+        CHECK.due("DELETE 1", 1, mesh.deal(0, DELETE, 1));
+        CHECK.letter(mesh, 0, 0, 1, NONE, 1, 1, 1, 10);
+        mesh.undo();
+        CHECK.due("DELETE 3", 2, mesh.deal(0, DELETE, 3));
+        CHECK.letter(mesh, 0, 0, 1, NONE, 1, 3, 2, 0, 10);
+        mesh.undo();
+        CHECK.due("MOVE", 3, mesh.deal(0, MOVE, 0));
+        CHECK.letter(mesh, 0, 0, 2, NONE, 1, NONE, 3, 0, 20, 30);
+        HoppingMesh receivers = Check.mesh("su0;p");
+        receivers.deal(0, ADD, 1);
+        receivers.frames(1);
+        receivers.lose(0);
+        receivers.frames(3);
+        CHECK.due("the RECEIVER's alone: DELETE", NONE, receivers.deal(0, DELETE, 1));
+        CHECK.due("the RECEIVER's alone: MOVE", NONE, receivers.deal(0, MOVE, 0));
+        CHECK.status(receivers, 0, 0, 1, 1, 0);
+        HoppingMesh senders = Check.mesh("su0;pk3");
+        senders.deal(0, ADD, 1);
+        senders.frames(2);
+        senders.lose(0);
+        CHECK.due("the SENDER's alone: DELETE", 1, senders.deal(0, DELETE, 1));
+        senders.undo();
+        CHECK.due("the SENDER's alone: MOVE", 3, senders.deal(0, MOVE, 0));
+    }
+
     private static void answerOdd() {
         CHECK.promise(14, "its SEQ unlike that of the REQUEST: ODD; a CLEAR at once");
         for (int kind = 0; kind <= 2; kind++) {
@@ -500,6 +538,66 @@ public final class Bounds14Test {
             CHECK.due("SEQ", row[1] == NONE ? 1 : 2, mesh.pair(0, 7));
             CHECK.due("SEQ", row[1] == NONE ? 1 : 2, mesh.pair(0, 8));
         }
+    }
+
+    /** The one OFFER of PAIR 1 is TAKEN at its RECEIVER; that PAIR 0 just told others does not matter. */
+    private static void moveOfTheOffersAlone() {
+        CHECK.promise(14, "MOVE: another one told, none else");
+        HoppingMesh mesh = Check.mesh("sw4c1u0;pa0b1;pa2b3;pa4b3;pa2b5");
+        settle(mesh, 1, ADD, 1);
+        settle(mesh, 3, ADD, 2);
+        settle(mesh, 2, ADD, 2);
+        settle(mesh, 2, MOVE, 1);
+        settle(mesh, 2, MOVE, 1);
+        CHECK.tables(mesh, 1, 0);
+        CHECK.due("one is FREE at the SENDER", 7, mesh.node(2, 0));
+        settle(mesh, 2, DELETE, 1);
+        settle(mesh, 2, MOVE, 0);
+        settle(mesh, 2, MOVE, 0);
+        CHECK.tables(mesh, 2, 30);
+        CHECK.due("that is TAKEN at the RECEIVER", 9, mesh.node(3, 0));
+        mesh.deal(0, ADD, 3);
+        mesh.deal(1, MOVE, 0);
+        CHECK.due("the one OFFER", 30, mesh.letter(1, 7));
+        mesh.frames(1);
+        CHECK.letter(mesh, 1, 1, 2, 1, NONE, NONE, 0);
+        CHECK.table(mesh, 1, 1, 0);
+    }
+
+    /** PAIR 2 takes SLOT 10 at NODE 1; NODE 0 has SLOTS 0 to 9 TAKEN, then OFFERS 10 and those behind. */
+    private static void slotsOfTwoDigits() {
+        CHECK.promise(14, "SLOTS of two digits");
+        HoppingMesh mesh = Check.mesh("sw16c4u0;pa0b1;pa0b2;pa3b1;pa0b4;pa5b1k3");
+        settle(mesh, 2, ADD, 1);
+        for (int i = 0; i < 10; i++) {
+            settle(mesh, 2, MOVE, 0);
+        }
+        CHECK.due("SLOT 10 is TAKEN", 1 << 10, mesh.node(1, 0));
+        settle(mesh, 1, ADD, 3);
+        settle(mesh, 1, ADD, 3);
+        settle(mesh, 3, ADD, 3);
+        settle(mesh, 3, ADD, 1);
+        CHECK.due("SLOTS 0 to 9 are TAKEN", 1023, mesh.node(0, 0));
+        mesh.deal(0, ADD, 2);
+        CHECK.letter(mesh, 0, 0, 0, NONE, 0, 2, 3, 102, 113, 120);
+        CHECK.due("PROMISED", 1023 | 7 << 10, mesh.node(0, 0));
+        mesh.frames(2);
+        CHECK.tables(mesh, 0, 113, 120);
+        mesh.deal(0, MOVE, 1);
+        CHECK.letter(mesh, 0, 0, 2, NONE, 1, NONE, 3, 120, 131, 142);
+        CHECK.due("PROMISED", 1023 | 3 << 11 | 3 << 13, mesh.node(0, 0));
+        mesh.frames(2);
+        CHECK.tables(mesh, 0, 113, 131);
+        settle(mesh, 0, MOVE, 0);
+        CHECK.tables(mesh, 0, 120, 131);
+        settle(mesh, 0, MOVE, 1);
+        settle(mesh, 0, MOVE, 1);
+        CHECK.tables(mesh, 0, 120, 153);
+        mesh.deal(0, MOVE, 1);
+        CHECK.letter(mesh, 0, 0, 2, NONE, 5, NONE, 3, 153, 102, 113);
+        mesh.frames(2);
+        CHECK.tables(mesh, 0, 113, 120);
+        CHECK.due("TAKEN at the RECEIVER", 7 << 10, mesh.node(1, 0));
     }
 
     private static void promisedSlotsAreTaken() {

@@ -7,6 +7,11 @@ public final class Bounds23To30Test {
 
     /** Meshes with what was done to them, by which calls ahead are compared with the same done by hand. */
     private static final Twins.Calls[] SETTINGS = {
+        m -> {
+            Check.tell(m, "sm2t2;pa0b1l9;pa1b2l9k3;pa2b3l9;pa3b4l9k3;pa4b5l9;pa5b0l9", 0);
+            m.years(9, 5);
+            m.deal(5, 3, 0);
+        },
         m -> Check.tell(m, "p", 0),
         m -> Check.tell(m, "sm2t2;pl3;pa1b0k3;pa2b3l0", 0),
         m -> {
@@ -682,6 +687,14 @@ public final class Bounds23To30Test {
                 CHECK.due("shares(" + p + ", " + c + ")", c * got[p] / 12, mesh.shares(p, c));
             }
         }
+        HoppingMesh six = Check.mesh("sc4u0;pb1l1;pb2l1;pb3l1;pb4l1;pb5l1;pa1b0l1");
+        six.deal(5, 0, 1);
+        six.frames(2);
+        CHECK.due("the last of six PAIRS", 999, six.shares(5, 999));
+        six.deal(0, 0, 1);
+        six.frames(2);
+        CHECK.due("of six PAIRS", 250, six.shares(0, 999) + 1);
+        CHECK.due("of six PAIRS", 749, six.shares(5, 999));
         HoppingMesh full = Check.mesh("su0;pl6;pa2b3l6");
         for (int p = 0; p < 2; p++) {
             full.deal(p, 0, 3);

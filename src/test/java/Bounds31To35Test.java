@@ -23,6 +23,8 @@ public final class Bounds31To35Test {
         p32Loudest();
         p32Jammed();
         p32Bad();
+        p32BadOfThree();
+        p32BadOfTheSender();
         p33NoMesh();
         p33InsteadOfTheOneAhead();
         p33NoAct();
@@ -69,6 +71,12 @@ public final class Bounds31To35Test {
         CHECK.due("a NODE of none", 0, mesh.node(0, 0));
         mesh.deal(0, 2, 0);
         CHECK.due("PROMISED 0 and 1", 1 << 15 | 3, mesh.node(5, 0));
+        for (int slot = 0; slot < 14; slot++) {
+            mesh.frames(2);
+            mesh.deal(0, 2, 0);
+            CHECK.due("PROMISED behind SLOT " + slot, 7 << slot, mesh.node(5, 0));
+            CHECK.due("the RECEIVER's", 1 << slot, mesh.node(4, 0));
+        }
     }
 
     private static void p31AllSlots() {
@@ -106,6 +114,15 @@ public final class Bounds31To35Test {
 
     private static void p31DoubleIsNone() {
         CHECK.promise(31, "DOUBLE: two CELLS or more in its TABLES");
+        HoppingMesh apart = Check.mesh("sc1u0;pa0b1;pa2b3;pa4b5");
+        for (int p = 0; p < 3; p++) {
+            apart.deal(p, 0, 2);
+        }
+        apart.frames(2);
+        for (int node = 0; node <= 5; node++) {
+            CHECK.due("BUSY", 3, apart.node(node, 0));
+            CHECK.due("SLOTS that others have, too", 0, apart.node(node, 1));
+        }
         HoppingMesh mesh = Check.mesh("sw4c1m2t2;pa0b1l9;pa1b0l9k3;pa0b2l9;pa2b1l9k3");
         mesh.loss(5);
         for (int seed = 0; seed < 10; seed++) {
@@ -151,7 +168,9 @@ public final class Bounds31To35Test {
         mesh.frames(1);
         CHECK.due("CELL 0 of both", 3, mesh.most(0));
         mesh.deal(2, 0, 1);
-        mesh.frames(2);
+        mesh.frames(1);
+        CHECK.due("the RECEIVER's of PAIR 2", 3, mesh.most(0));
+        mesh.frames(1);
         CHECK.due("of all", 7, mesh.most(0));
         mesh.deal(1, 2, 0);
         mesh.frames(2);
@@ -159,6 +178,16 @@ public final class Bounds31To35Test {
         mesh.deal(1, 2, 0);
         mesh.frames(2);
         CHECK.due("moved on", 5, mesh.most(0));
+        for (int first = 0; first < 2; first++) {
+            HoppingMesh two = Check.mesh("sc1u0;pa0b1;pa2b3");
+            two.deal(first, 0, 1);
+            two.frames(2);
+            two.deal(1 - first, 0, 1);
+            two.frames(1);
+            CHECK.due("a SENDER and another's RECEIVER", 0, two.most(0));
+            two.frames(1);
+            CHECK.due("both SENDERS", 3, two.most(0));
+        }
         HoppingMesh six = Check.mesh("sc1u0;pa0b1;pa2b3;pa4b5;pa1b2;pa3b4;pa5b0");
         six.deal(0, 0, 1);
         six.deal(1, 0, 1);
@@ -311,10 +340,14 @@ public final class Bounds31To35Test {
         CHECK.due("8 of 16, the other 12 of 16", NONE, mesh.most(9));
         mesh.frames(9);
         CHECK.due("8 of 25, the other 21 of 25", 0, mesh.most(9));
-        HoppingMesh one = withCells(4, ";pl1");
-        one.jam(0);
-        one.frames(9);
-        CHECK.due("GOT by none", true, one.cell(0, 0, 0, 1) >= 4 && one.cell(0, 0, 0, 2) == 0);
+        HoppingMesh alone = withCells(4, ";pl2");
+        alone.jam(0);
+        alone.frames(5);
+        CHECK.due("0 of 5, the other 5 of 5", 0, alone.most(9));
+        alone.deal(0, 1, 1);
+        alone.frames(2);
+        CHECK.table(alone, 0, 0, 0);
+        CHECK.due("the other is gone", NONE, alone.most(9));
         HoppingMesh pairs = withCells(4, ";pl0;pa2b3l2;pa4b5l0");
         pairs.jam(0);
         pairs.frames(5);
@@ -325,6 +358,64 @@ public final class Bounds31To35Test {
         several.frames(5);
         CHECK.table(several, 1, 0, 0, 10);
         CHECK.due("of the lower PAIR", 10, several.most(9));
+    }
+
+    /** Three CELLS are SENT in eight FRAMES; place by place so often they are JAMMED. */
+    private static int badOf(int... jammed) {
+        HoppingMesh mesh = Check.mesh("sw4c1u0;pl0", "0123");
+        mesh.deal(0, 0, 3);
+        mesh.frames(2);
+        for (int channel = 0; channel < 3; channel++) {
+            if (jammed[channel] > 0) {
+                mesh.jam(channel);
+            }
+        }
+        mesh.load(0, 9);
+        for (int frame = 1; frame <= 8; frame++) {
+            mesh.frames(1);
+            for (int channel = 0; channel < 3; channel++) {
+                if (jammed[channel] == frame) {
+                    mesh.jam(channel);
+                }
+            }
+        }
+        for (int place = 0; place < 3; place++) {
+            CHECK.due("SENT", 8, mesh.cell(0, 0, place, 1));
+            CHECK.due("GOT", 8 - jammed[place], mesh.cell(0, 0, place, 2));
+        }
+        return mesh.most(9);
+    }
+
+    private static void p32BadOfThree() {
+        CHECK.promise(32, "BAD: less than half of the greatest, the least, in any order");
+        int[][] orders = {{0, 1, 2}, {0, 2, 1}, {1, 0, 2}, {1, 2, 0}, {2, 0, 1}, {2, 1, 0}};
+        int[][] counts = {{0, 6, 5}, {0, 8, 7}, {0, 4, 0}, {2, 5, 3}, {2, 6, 5}, {8, 8, 8}, {0, 5, 5}};
+        boolean[] bad = {true, true, false, false, true, false, true};
+        for (int[] order : orders) {
+            for (int row = 0; row < counts.length; row++) {
+                int[] jammed = new int[3];
+                for (int i = 0; i < 3; i++) {
+                    jammed[order[i]] = counts[row][i];
+                }
+                int least = jammed[1] > jammed[0] ? jammed[2] > jammed[1] ? 2 : 1 : jammed[2] > jammed[0] ? 2 : 0;
+                CHECK.due("GOT less by " + jammed[0] + ", " + jammed[1] + ", " + jammed[2],
+                        bad[row] ? 10 * least : NONE, badOf(jammed));
+            }
+        }
+    }
+
+    private static void p32BadOfTheSender() {
+        CHECK.promise(32, "BAD: a CELL of the SENDER's TABLE");
+        HoppingMesh mesh = Check.mesh("sw4c1u0;pl0");
+        mesh.deal(0, 0, 2);
+        mesh.frames(2);
+        mesh.deal(0, 2, 0);
+        mesh.frames(1);
+        mesh.lose(0);
+        CHECK.table(mesh, 0, 1, 10, 20);
+        mesh.load(0, 9);
+        mesh.frames(4);
+        CHECK.due("BAD", 0, mesh.most(9));
     }
 
     private static void p33NoMesh() {
@@ -490,8 +581,10 @@ public final class Bounds31To35Test {
                 mesh.frames(1);
             }
             int[] got = new int[60];
+            int[] rest = new int[60];
             for (int i = 0; i < 60; i++) {
                 got[i] = mesh.log(i, 2);
+                rest[i] = mesh.log(i, 0) * 10 + mesh.log(i, 1);
             }
             mesh.image();
             mesh.load(0, 5);
@@ -501,6 +594,7 @@ public final class Bounds31To35Test {
             CHECK.due(n + ": LOG", Math.min(n, 60), mesh.count(5));
             for (int i = 0; i < 60; i++) {
                 CHECK.due(n + ": log(" + i + ", 2)", got[i], mesh.log(i, 2));
+                CHECK.due(n + ": log(" + i + ", 0 and 1)", rest[i], mesh.log(i, 0) * 10 + mesh.log(i, 1));
             }
             CHECK.due(n + ": log(60, 2)", NONE, mesh.log(60, 2));
             mesh.frames(2);
