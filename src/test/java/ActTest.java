@@ -38,12 +38,6 @@ public final class ActTest {
         CHECK.end("ActTest");
     }
 
-    private static void status(HoppingMesh mesh, int... due) {
-        for (int what = 0; what < due.length; what++) {
-            CHECK.due("status(" + what + ")", due[what], mesh.status(what));
-        }
-    }
-
     private static void table(String name, HoppingMesh mesh, int pair, int side, int... cells) {
         for (int i = 0; i <= cells.length; i++) {
             CHECK.due(name + ": cell(" + pair + ", " + side + ", " + i + ", 0)", i < cells.length ? cells[i] : NONE,
@@ -59,7 +53,7 @@ public final class ActTest {
         CHECK.due("frames(41)", NONE, mesh.frames(41));
         CHECK.due("frames(min)", NONE, mesh.frames(Integer.MIN_VALUE));
         CHECK.due("frames(max)", NONE, mesh.frames(Integer.MAX_VALUE));
-        status(mesh, 1, 4, 0, 0, 0);
+        CHECK.status(mesh, 1, 4, 0, 0, 0);
         CHECK.due("refused", 0, mesh.count(3));
         CHECK.due("frames(1)", 1, mesh.frames(1));
         CHECK.due("frames(40)", 41, mesh.frames(40));
@@ -75,7 +69,7 @@ public final class ActTest {
         CHECK.due("FRAME", 9960, mesh.count(3));
         CHECK.due("one too many", NONE, mesh.frames(40));
         CHECK.due("one too many", NONE, mesh.years(40, 1));
-        status(mesh, 0, 0, 0, 0, 1);
+        CHECK.status(mesh, 0, 0, 0, 0, 1);
         CHECK.due("FRAME", 9960, mesh.count(3));
         CHECK.due("years(39)", 9999, mesh.years(39, 1));
         CHECK.due("undo", 39, mesh.undo());
@@ -88,7 +82,7 @@ public final class ActTest {
         CHECK.due("none goes by then", NONE, mesh.frames(1));
         CHECK.due("none goes by then", NONE, mesh.years(1, 1));
         CHECK.due("out of bounds is first", NONE, mesh.frames(0));
-        status(mesh, 0, 1, 0, 0, 3);
+        CHECK.status(mesh, 0, 1, 0, 0, 3);
         mesh.load(0, 1);
         CHECK.due("apart FRAMES go on", 60, mesh.comes(0, 60, 1));
     }
@@ -99,21 +93,21 @@ public final class ActTest {
         Check.tell(mesh, "su0;p", 0);
         CHECK.due("no such PAIR", NONE, mesh.deal(1, 9, 1));
         CHECK.due("no such PAIR", NONE, mesh.deal(-1, 0, 1));
-        status(mesh, 3, 0, 0, 0, 0);
+        CHECK.status(mesh, 3, 0, 0, 0, 0);
         int[][] wrong = {{-1, 1}, {4, 0}, {0, 0}, {0, 4}, {1, 0}, {1, 4}, {2, -1}, {2, 6}, {3, 1}, {3, -1}};
         for (int[] kind : wrong) {
             CHECK.due("deal(0, " + kind[0] + ", " + kind[1] + ")", NONE, mesh.deal(0, kind[0], kind[1]));
         }
-        status(mesh, 3, wrong.length, 0, 0, 0);
+        CHECK.status(mesh, 3, wrong.length, 0, 0, 0);
         CHECK.due("no such CELL", NONE, mesh.deal(0, 2, 0));
         CHECK.due("no such CELL", NONE, mesh.deal(0, 2, 5));
-        status(mesh, 3, wrong.length, 2, 0, 0);
+        CHECK.status(mesh, 3, wrong.length, 2, 0, 0);
         CHECK.due("nothing to DELETE", NONE, mesh.deal(0, 1, 1));
-        status(mesh, 3, wrong.length, 2, 1, 0);
+        CHECK.status(mesh, 3, wrong.length, 2, 1, 0);
         CHECK.due("no ACT", 0, mesh.count(6));
         CHECK.due("CLEAR", 0, mesh.deal(0, 3, 0));
         CHECK.due("it WAITS", NONE, mesh.deal(0, 3, 0));
-        status(mesh, 3, wrong.length, 2, 2, 0);
+        CHECK.status(mesh, 3, wrong.length, 2, 2, 0);
         mesh.frames(2);
         CHECK.due("ADD 1", 2, mesh.deal(0, 0, 1));
         mesh.frames(2);
@@ -154,7 +148,7 @@ public final class ActTest {
         table("all SLOTS", mesh, 0, 0, 0, 11, 20, 31);
         CHECK.due("no OFFERS: ADD", NONE, mesh.deal(0, 0, 1));
         CHECK.due("no OFFERS: MOVE", NONE, mesh.deal(0, 2, 0));
-        status(mesh, 0, 0, 0, 4, 0);
+        CHECK.status(mesh, 0, 0, 0, 4, 0);
         CHECK.due("3 STEPS begin without OFFERS", 0, mesh.deal(1, 0, 1));
         CHECK.due("DELETE", 3, mesh.deal(0, 1, 3));
     }
@@ -420,7 +414,7 @@ public final class ActTest {
         CHECK.due("no such PAIR", NONE, mesh.lose(2));
         CHECK.due("no such PAIR", NONE, mesh.lose(-1));
         CHECK.due("no LETTER", NONE, mesh.lose(0));
-        status(mesh, 3, 0, 1, 0, 0);
+        CHECK.status(mesh, 3, 0, 1, 0, 0);
         mesh.deal(0, 0, 1);
         mesh.deal(1, 0, 1);
         CHECK.due("REQUEST", 0, mesh.lose(1));
@@ -440,7 +434,7 @@ public final class ActTest {
         Check.tell(mesh, "57", 1);
         CHECK.due("jam(-1)", NONE, mesh.jam(-1));
         CHECK.due("jam(16)", NONE, mesh.jam(16));
-        status(mesh, 1, 2, 0, 0, 0);
+        CHECK.status(mesh, 1, 2, 0, 0, 0);
         mesh.deal(0, 0, 1);
         mesh.frames(2);
         CHECK.due("GOT", 1, mesh.cell(0, 0, 0, 2));
@@ -468,7 +462,7 @@ public final class ActTest {
         CHECK.due("out of bounds", NONE, mesh.load(0, 10));
         CHECK.due("out of bounds", NONE, mesh.load(0, -1));
         CHECK.due("it is so", NONE, mesh.load(0, 3));
-        status(mesh, 2, 2, 1, 0, 0);
+        CHECK.status(mesh, 2, 2, 1, 0, 0);
         CHECK.due("how it was", 3, mesh.load(0, 9));
         mesh.frames(1);
         CHECK.due("QUEUE", 9, mesh.pair(0, 4));
@@ -480,7 +474,7 @@ public final class ActTest {
     private static void auto() {
         HoppingMesh mesh = new HoppingMesh();
         CHECK.due("no MESH", NONE, mesh.auto());
-        status(mesh, 1, 0, 0, 0, 0);
+        CHECK.status(mesh, 1, 0, 0, 0, 0);
         Check.tell(mesh, "p", 0);
         CHECK.due("not AUTO", 0, mesh.auto());
         mesh.frames(8);
@@ -721,7 +715,7 @@ public final class ActTest {
         CHECK.due("years(41)", NONE, mesh.years(41, 0));
         CHECK.due("years(max)", NONE, mesh.years(Integer.MAX_VALUE, 0));
         CHECK.due("years(40)", 40, mesh.years(40, Long.MIN_VALUE));
-        status(mesh, 0, 0, 0, 0, 0);
+        CHECK.status(mesh, 0, 0, 0, 0, 0);
     }
 
     private static void status() {
@@ -734,17 +728,17 @@ public final class ActTest {
         mesh.lose(0);
         mesh.deal(0, 1, 1);
         mesh.jam(99);
-        status(mesh, 1, 1, 1, 1, 0);
+        CHECK.status(mesh, 1, 1, 1, 1, 0);
         mesh.undo();
-        status(mesh, 1, 1, 1, 1, 0);
+        CHECK.status(mesh, 1, 1, 1, 1, 0);
         mesh.image();
         mesh.jam(99);
         mesh.back();
-        status(mesh, 1, 2, 1, 1, 0);
+        CHECK.status(mesh, 1, 2, 1, 1, 0);
         mesh.undo();
         mesh.comes(9, 0, 0);
         mesh.text(0);
-        status(mesh, 1, 2, 1, 1, 0);
+        CHECK.status(mesh, 1, 2, 1, 1, 0);
     }
 
     private static void undo() {
