@@ -18,7 +18,6 @@ public final class ActTest {
         lostConfirm();
         receiverThatWaits();
         lostClear();
-        seqGoesRound();
         lose();
         jam();
         load();
@@ -383,28 +382,6 @@ public final class ActTest {
         CHECK.due("SEQ", 1, mesh.pair(0, 8));
         mesh.deal(0, 0, 1);
         CHECK.due("ODD and CLEAR heal", 3, mesh.healed());
-    }
-
-    /** Three by AUTO, the others by hand: within 512 calls. */
-    private static void seqGoesRound() {
-        HoppingMesh mesh = Check.mesh("p");
-        mesh.frames(16);
-        mesh.auto();
-        CHECK.due("SEQ", 3, mesh.pair(0, 7));
-        for (int i = 0; i < 244; i++) {
-            mesh.deal(0, i % 2, 1);
-            mesh.frames(2);
-        }
-        CHECK.due("SEQ", 247, mesh.pair(0, 7));
-        for (int i = 0; i < 8; i++) {
-            mesh.deal(0, 2, 0);
-            mesh.frames(2);
-        }
-        CHECK.due("SEQ", 255, mesh.pair(0, 8));
-        mesh.deal(0, 1, 1);
-        mesh.frames(2);
-        CHECK.due("the NEXT of 255", 1, mesh.pair(0, 7));
-        CHECK.due("the NEXT of 255", 1, mesh.pair(0, 8));
     }
 
     private static void lose() {

@@ -589,8 +589,8 @@ public final class Bounds15To22Test {
         HoppingMesh mesh = Check.mesh("su0;pl0");
         mesh.deal(0, 0, 1);
         mesh.frames(2);
-        boolean[] got = new boolean[120];
-        for (int i = 2; i < 102; i++) {
+        boolean[] got = new boolean[100];
+        for (int i = 2; i < 94; i++) {
             got[i] = i % 3 == 0;
             int load = got[i] ? 1 : 0;
             if (mesh.pair(0, 3) != load) {
@@ -598,7 +598,7 @@ public final class Bounds15To22Test {
             }
             mesh.frames(1);
         }
-        for (int frame = 102; frame > 85; frame = mesh.count(3)) {
+        for (int frame = 94; frame > 84; frame = mesh.count(3)) {
             CHECK.due("LOG is full", 60, mesh.count(5));
             for (int i = 0; i < 60; i += 7) {
                 CHECK.due("FRAME " + frame + ": log(" + i + ", 2)", got[frame - 1 - i] ? 1 : 0, mesh.log(i, 2));

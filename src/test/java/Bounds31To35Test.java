@@ -584,6 +584,8 @@ public final class Bounds31To35Test {
             int[] rest = new int[60];
             for (int i = 0; i < 60; i++) {
                 got[i] = mesh.log(i, 2);
+            }
+            for (int i = 2; i < 60; i += 19) {
                 rest[i] = mesh.log(i, 0) * 10 + mesh.log(i, 1);
             }
             mesh.image();
@@ -594,6 +596,8 @@ public final class Bounds31To35Test {
             CHECK.due(n + ": LOG", Math.min(n, 60), mesh.count(5));
             for (int i = 0; i < 60; i++) {
                 CHECK.due(n + ": log(" + i + ", 2)", got[i], mesh.log(i, 2));
+            }
+            for (int i = 2; i < 60; i += 19) {
                 CHECK.due(n + ": log(" + i + ", 0 and 1)", rest[i], mesh.log(i, 0) * 10 + mesh.log(i, 1));
             }
             CHECK.due(n + ": log(60, 2)", NONE, mesh.log(60, 2));

@@ -94,17 +94,20 @@ final class Twins {
 
         /** Two PAIRS at most: the others are seen by what they do to these. */
         private void askPairs(HoppingMesh mesh) {
-            for (int p = 0; p < mesh.count(0) && p < 2; p++) {
+            int pairs = Math.min(2, mesh.count(0));
+            for (int p = 0; p < pairs; p++) {
                 for (int what = 0; what <= 10; what++) {
                     put("pair(" + p + ", " + what + ")", mesh.pair(p, what));
                 }
-                for (int what = 0; what <= 9 && mesh.letter(p, 0) != HoppingMesh.NONE; what++) {
+                int words = mesh.letter(p, 0) == HoppingMesh.NONE ? 0 : 10;
+                for (int what = 0; what < words; what++) {
                     put("letter(" + p + ", " + what + ")", mesh.letter(p, what));
                 }
                 for (int side = 0; side < 2; side++) {
                     put("waits(" + p + ", " + side + ", 1)", mesh.waits(p, side, 1));
                     put("waits(" + p + ", " + side + ", 2)", mesh.waits(p, side, 2));
-                    for (int i = 0; i < mesh.pair(p, 9 + side); i++) {
+                    int cells = mesh.pair(p, 9 + side);
+                    for (int i = 0; i < cells; i++) {
                         for (int what = 0; what < 3 - 2 * side; what++) {
                             put("cell(" + p + ", " + side + ", " + i + ", " + what + ")", mesh.cell(p, side, i, what));
                         }
