@@ -3,15 +3,22 @@ import java.io.StringWriter;
 import java.nio.file.Path;
 import java.util.HashMap;
 import java.util.Map;
+import java.util.Set;
 import java.util.TreeSet;
 import java.util.regex.Matcher;
 import java.util.regex.Pattern;
 import java.util.spi.ToolProvider;
 
-/** LANGUAGE.md, rules 8 and 11: no call of the face goes more than eight deep, and none comes back to itself. */
+/**
+ * LANGUAGE.md, rules 8 and 11: no call of the face goes more than eight deep, and none comes back to itself;
+ * rule 4: of the library nothing is called but what is written down here.
+ */
 public final class CallDepthTest {
     private static final Check CHECK = new Check();
     private static final int DEEPEST = 8;
+    private static final Set<String> LIBRARY = Set.of("java.lang.Object.<init>", "java.lang.Math.max",
+            "java.lang.Math.min", "java.lang.String.indexOf", "java.lang.String.length", "java.lang.System.arraycopy",
+            "java.util.Arrays.fill", "java.util.NoSuchElementException.<init>");
     private static final Pattern METHOD = Pattern.compile("^  \\S.*?([\\w$.]+)\\(.*\\).*;$");
     private static final Pattern CALL = Pattern.compile("// (?:Interface)?Method (\\S+):");
 
@@ -32,6 +39,7 @@ public final class CallDepthTest {
             CHECK.due(method + " goes " + depth + " deep", true, depth <= DEEPEST);
         }
         CHECK.due("calls are found", true, deepest > 4);
+        test.calls.forEach(CallDepthTest::callsOnlyKnown);
         CHECK.end("CallDepthTest");
     }
 
@@ -52,6 +60,14 @@ public final class CallDepthTest {
                 String target = called.group(1).replace("\"", "").replace('/', '.');
                 calls.get(method).add(target.contains(".") ? target : name + "." + target);
             }
+            CHECK.due(method + " makes no call at run time", false, line.contains("InvokeDynamic"));
+        }
+    }
+
+    private static void callsOnlyKnown(String method, Set<String> targets) {
+        for (String target : targets) {
+            boolean known = target.startsWith("HoppingMesh") || LIBRARY.contains(target);
+            CHECK.due(method + " may call " + target, true, known);
         }
     }
 
